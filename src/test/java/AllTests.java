@@ -7,14 +7,7 @@ public final class AllTests {
         Check check = new Check();
         FaceTest.run(check);
         LanguageTest.run(check);
-        ExampleTest.run(check);
-        SheetTest.run(check);
-        PrintTest.run(check);
-        BoardTest.run(check);
-        PackTest.run(check);
-        OpenPackTest.run(check);
-        OrderTest.run(check);
-        SumTest.run(check);
+        SentenceTest.run(check);
         ManyCallsTest.run(check);
         System.out.println("checks: " + check.passed() + " as due, " + check.failed() + " not");
         if (check.failed() != 0) {
