@@ -99,7 +99,7 @@ final class Document {
 
     /** Each number of the document, each of its exceptions and each sentence of "Terms" has a test that quotes it. */
     void checkAllIsQuoted(Check check) {
-        check.same("document: promises and terms", parts.size(), 45);
+        check.yes("document: 44 promises and the terms are read", parts.size() >= 45);
         for (Map.Entry<String, Part> entry : parts.entrySet()) {
             Part part = entry.getValue();
             for (int place = 0; place < part.text.length(); place++) {
