@@ -22,6 +22,10 @@ record Call(String name, List<Object> arguments) {
         return found;
     }
 
+    static boolean isOfFace(String name) {
+        return OF_MILL.containsKey(name);
+    }
+
     static List<Method> all() {
         return List.copyOf(OF_MILL.values());
     }

@@ -13,14 +13,17 @@ import java.util.regex.Pattern;
 final class Document {
     static final String TERMS = "Terms";
     private static final Pattern PROMISE = Pattern.compile("Promise (\\d+): (.*)");
+    private static final Pattern SIGNATURE = Pattern.compile("`([^`]*\\).*?)`: ");
     private static final Pattern EXAMPLE = Pattern.compile("```text\\n(.*?)\\.?\\s*```", Pattern.DOTALL);
+    private static final Pattern FACE = Pattern.compile("```java\\n(.*?)```", Pattern.DOTALL);
+    private static final Pattern FACE_LINE = Pattern.compile("(?m)^    public (.*);$");
+    private static final Pattern WORDS = Pattern.compile("[^ .,;:`-].*[^ .,;:`-]");
     // Nothing that one thread calls can show whether this holds.
     private static final String NOT_TESTED = "The class is not thread-safe";
 
     private static final class Part {
         final String call;
         final String text;
-        final List<String> whole = new ArrayList<>();
         final boolean[] isQuoted;
 
         Part(String call, String text) {
@@ -28,9 +31,34 @@ final class Document {
             this.text = text;
             isQuoted = new boolean[text.length()];
         }
+
+        void quote(int start, int length) {
+            for (int place = start; place < start + length; place++) {
+                isQuoted[place] = true;
+            }
+        }
+
+        /** What lies between the quotes, with the signs at its ends dropped. */
+        List<String> unquoted() {
+            List<String> found = new ArrayList<>();
+            int place = 0;
+            while (place < text.length()) {
+                int start = place;
+                while (place < text.length() && isQuoted[place] == isQuoted[start]) {
+                    place++;
+                }
+                Matcher words = WORDS.matcher(text.substring(start, place));
+                if (!isQuoted[start] && words.find()) {
+                    found.add(words.group());
+                }
+            }
+            return found;
+        }
     }
 
     private final Map<String, Part> parts = new LinkedHashMap<>();
+    private final List<String> face = new ArrayList<>();
+    private final List<String> signatures = new ArrayList<>();
     private final String example;
 
     Document(Path file) {
@@ -38,8 +66,11 @@ final class Document {
         for (String section : text.split("(?m)^## ")) {
             addPart(section);
         }
-        Matcher found = EXAMPLE.matcher(text);
-        example = found.find() ? found.group(1) : "";
+        example = firstOf(EXAMPLE, text);
+        Matcher line = FACE_LINE.matcher(firstOf(FACE, text));
+        while (line.find()) {
+            face.add(line.group(1));
+        }
     }
 
     private static String textOf(Path file) {
@@ -50,24 +81,24 @@ final class Document {
         }
     }
 
+    private static String firstOf(Pattern block, String text) {
+        Matcher found = block.matcher(text);
+        return found.find() ? found.group(1) : "";
+    }
+
     private void addPart(String section) {
         String title = section.lines().findFirst().orElse("");
+        String body = folded(section.substring(title.length()).split("<p>Examples:")[0]);
         Matcher promise = PROMISE.matcher(title);
         if (title.equals(TERMS)) {
-            String terms = folded(section.substring(title.length()).split("<p>Examples:")[0]);
-            Part part = new Part("", terms);
-            for (String sentence : terms.split("\\. |\\.$")) {
-                if (!sentence.equals(NOT_TESTED) && sentence.indexOf(' ') > 0) {
-                    part.whole.add(sentence);
-                }
-            }
-            parts.put(TERMS, part);
+            Part terms = new Part("", body);
+            terms.quote(body.indexOf(NOT_TESTED), body.contains(NOT_TESTED) ? NOT_TESTED.length() : 0);
+            parts.put(TERMS, terms);
         } else if (promise.matches()) {
-            List<String> lines = section.lines().skip(1)
-                    .map(line -> line.replaceFirst("^`.*?`: ", "")).filter(line -> !line.isBlank()).toList();
-            Part part = new Part(promise.group(2), folded(String.join(" ", lines)));
-            lines.stream().filter(line -> line.startsWith("Throws ")).map(Document::folded).forEach(part.whole::add);
-            parts.put(promise.group(1), part);
+            Matcher signature = SIGNATURE.matcher(body);
+            boolean isSigned = signature.lookingAt();
+            signatures.add(isSigned ? signature.group(1) : title);
+            parts.put(promise.group(1), new Part(promise.group(2), body.substring(isSigned ? signature.end() : 0)));
         }
     }
 
@@ -79,7 +110,17 @@ final class Document {
         return example;
     }
 
-    /** The call that a promise is about. */
+    /** The constructor and the methods as "The public face" lists them. */
+    List<String> face() {
+        return face;
+    }
+
+    /** The same as the promises tell them, each its own one. */
+    List<String> signatures() {
+        return signatures;
+    }
+
+    /** The call that a promise is about; the first promise is about a new object. */
     String callOf(String part) {
         return parts.containsKey(part) ? parts.get(part).call : "";
     }
@@ -88,40 +129,17 @@ final class Document {
         Part quoted = parts.get(part);
         int start = quoted == null ? -1 : quoted.text.indexOf(words);
         check.yes(where + ": the document does not say: " + words, start >= 0);
-        if (start < 0) {
-            return;
-        }
-        check.same(where + ": said more than once: " + words, quoted.text.indexOf(words, start + 1), -1);
-        for (int place = start; place < start + words.length(); place++) {
-            quoted.isQuoted[place] = true;
+        if (start >= 0) {
+            check.same(where + ": said more than once: " + words, quoted.text.indexOf(words, start + 1), -1);
+            quoted.quote(start, words.length());
         }
     }
 
-    /** Each number of the document, each of its exceptions and each sentence of "Terms" has a test that quotes it. */
+    /** Each word of "Terms" and of the promises stands in the quote of a test. */
     void checkAllIsQuoted(Check check) {
         check.yes("document: 44 promises and the terms are read", parts.size() >= 45);
         for (Map.Entry<String, Part> entry : parts.entrySet()) {
-            Part part = entry.getValue();
-            for (int place = 0; place < part.text.length(); place++) {
-                if (Character.isDigit(part.text.charAt(place))) {
-                    String near = part.text.substring(Math.max(0, place - 20),
-                            Math.min(part.text.length(), place + 20));
-                    check.yes("no test quotes the number in " + entry.getKey() + ": " + near, part.isQuoted[place]);
-                }
-            }
-            for (String sentence : part.whole) {
-                check.yes("no test quotes " + entry.getKey() + ": " + sentence, isQuoted(part, sentence));
-            }
+            check.same("no test quotes of " + entry.getKey(), entry.getValue().unquoted(), List.of());
         }
-    }
-
-    /** Quoting a part of a sentence is enough, if it is more than a word or two. */
-    private static boolean isQuoted(Part part, String sentence) {
-        int start = part.text.indexOf(sentence);
-        int quoted = 0;
-        for (int place = start; place < start + sentence.length(); place++) {
-            quoted += part.isQuoted[place] ? 1 : 0;
-        }
-        return quoted * 2 >= sentence.length();
     }
 }

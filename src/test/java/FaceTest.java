@@ -1,37 +1,43 @@
+import java.lang.reflect.Constructor;
+import java.lang.reflect.Executable;
 import java.lang.reflect.Method;
 import java.lang.reflect.Modifier;
 import java.util.Arrays;
+import java.util.List;
 import java.util.TreeSet;
+import java.util.stream.Collectors;
 
 /** The public face: what the document lists, and no other member that can be seen from outside. */
 final class FaceTest {
-    private static final String[] FACE = {
-        "int sheet(int,int)", "int put(int,int,int,int)", "int at(int,int,int)", "int lay(int,int)",
-        "boolean isEven(int)", "int pass(int,int,int,int)", "int outOf(int)", "int tolerance(int)",
-        "int knife(int,int)", "int print(int,int)", "int spoiled()", "int pile(int,boolean)",
-        "int pulp(int)", "int layer(int,int,boolean)", "int strip()", "int snap()", "boolean isOpaque()",
-        "int mark(int,int,int)", "boolean isTurnable()", "int collate(char)", "int lacking(char)",
-        "int possible(char)", "char state(int)", "char wrong(int)", "int cards(int)",
-        "int cardAt(int,int)", "boolean open(int)", "boolean seal(int)", "int take(int,int)",
-        "int add(int,int)", "int shuffle(int,boolean)", "int cut(int,int)", "int period(int)",
-        "int destroy(int)", "int order(int,char,int,int)", "int fill()", "boolean isFilled(int)",
-        "int house(int)", "int paid(int)", "long checksum()", "float plainShare()",
-        "double meanPrice()", "boolean isSound()",
-    };
-
     private FaceTest() {
     }
 
-    static void run(Check check) {
+    static void run(Check check, Document document) {
         TreeSet<String> seen = new TreeSet<>();
         TreeSet<String> names = new TreeSet<>();
+        for (Constructor<?> constructor : Deckmill.class.getDeclaredConstructors()) {
+            seen.add(told("", "Deckmill", constructor));
+        }
         for (Method method : Deckmill.class.getDeclaredMethods()) {
             if (!Modifier.isPrivate(method.getModifiers())) {
-                seen.add(told(method));
+                seen.add(told(method.getReturnType() + " ", method.getName(), method));
                 names.add(method.getName());
             }
         }
+        check.same("face: it is read", document.face().size(), 44);
+        check.same("face: as it is listed", seen, withoutNames(document.face()));
+        check.same("face: as it is promised", seen, withoutNames(document.signatures()));
+        check.yes("face: public and final", Modifier.isPublic(Deckmill.class.getModifiers())
+                && Modifier.isFinal(Deckmill.class.getModifiers()));
+        check.yes("face: fields", Arrays.stream(Deckmill.class.getDeclaredFields())
+                .allMatch(field -> Modifier.isPrivate(field.getModifiers())));
+        checkNamesAreNotUsedInside(check, names);
+    }
+
+    private static void checkNamesAreNotUsedInside(Check check, TreeSet<String> names) {
         for (Class<?> inside : Deckmill.class.getDeclaredClasses()) {
+            check.yes("face: a class inside, " + inside, Modifier.isStatic(inside.getModifiers())
+                    && !Modifier.isPublic(inside.getModifiers()) && !Modifier.isProtected(inside.getModifiers()));
             for (Method method : inside.getDeclaredMethods()) {
                 check.no("face: a name used inside, " + method, names.contains(method.getName()));
             }
@@ -40,19 +46,25 @@ final class FaceTest {
             check.no("face: a private name, " + method,
                     Modifier.isPrivate(method.getModifiers()) && names.contains(method.getName()));
         }
-        check.same("face: methods", seen, new TreeSet<>(Arrays.asList(FACE)));
-        check.yes("face: final", Modifier.isFinal(Deckmill.class.getModifiers()));
-        check.same("face: constructors", Deckmill.class.getConstructors().length, 1);
-        check.yes("face: fields", Arrays.stream(Deckmill.class.getDeclaredFields())
-                .allMatch(field -> Modifier.isPrivate(field.getModifiers())));
     }
 
-    private static String told(Method method) {
-        StringBuilder text = new StringBuilder();
-        text.append(method.getReturnType()).append(' ').append(method.getName()).append('(');
-        for (Class<?> type : method.getParameterTypes()) {
-            text.append(text.charAt(text.length() - 1) == '(' ? "" : ",").append(type);
+    private static String told(String type, String name, Executable member) {
+        String thrown = listed(member.getExceptionTypes());
+        return type + name + '(' + listed(member.getParameterTypes()) + ')'
+                + (thrown.isEmpty() ? "" : " throws " + thrown);
+    }
+
+    private static String listed(Class<?>[] types) {
+        return Arrays.stream(types).map(Class::getSimpleName).collect(Collectors.joining(", "));
+    }
+
+    /** "int lay(int sheet, int card) throws .." as "int lay(int, int) throws ..". */
+    private static TreeSet<String> withoutNames(List<String> signatures) {
+        TreeSet<String> found = new TreeSet<>();
+        for (String signature : signatures) {
+            int end = signature.indexOf(')') + 1;
+            found.add(signature.substring(0, end).replaceAll("(\\w+) \\w+(?=[,)])", "$1") + signature.substring(end));
         }
-        return text.append(')').toString();
+        return found;
     }
 }

@@ -12,6 +12,11 @@ import java.util.regex.Pattern;
 final class Script {
     /** A call and its answer; where no answer is written, any will do that is not an exception. */
     record Step(Call call, String due) {
+        /** Whether it is a call of this name with this answer, which is written. */
+        boolean isAnswered(String name, String answer) {
+            return call.name().equals(name) && due != null && due.equals(answer);
+        }
+
         boolean isRefused() {
             return due != null && due.startsWith(Call.THROWS);
         }
