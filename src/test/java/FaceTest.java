@@ -25,13 +25,22 @@ final class FaceTest {
             }
         }
         check.same("face: it is read", document.face().size(), 44);
-        check.same("face: as it is listed", seen, withoutNames(document.face()));
-        check.same("face: as it is promised", seen, withoutNames(document.signatures()));
+        checkSame(check, "listed", seen, withoutNames(document.face()));
+        checkSame(check, "promised", seen, withoutNames(document.signatures()));
         check.yes("face: public and final", Modifier.isPublic(Deckmill.class.getModifiers())
                 && Modifier.isFinal(Deckmill.class.getModifiers()));
         check.yes("face: fields", Arrays.stream(Deckmill.class.getDeclaredFields())
                 .allMatch(field -> Modifier.isPrivate(field.getModifiers())));
         checkNamesAreNotUsedInside(check, names);
+    }
+
+    private static void checkSame(Check check, String told, TreeSet<String> seen, TreeSet<String> due) {
+        check.same("face: what is not " + told, without(seen, due), List.of());
+        check.same("face: what is " + told + ", but not there", without(due, seen), List.of());
+    }
+
+    private static List<String> without(TreeSet<String> all, TreeSet<String> dropped) {
+        return all.stream().filter(one -> !dropped.contains(one)).toList();
     }
 
     private static void checkNamesAreNotUsedInside(Check check, TreeSet<String> names) {
